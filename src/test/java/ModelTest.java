@@ -15,6 +15,9 @@ public final class ModelTest {
         for (int i = 0; i < 1500 && calls.wrong() < 20; i++) {
             planFullWeek(i);
         }
+        for (int i = 0; i < 3 && calls.wrong() < 20; i++) {
+            planFullestWeek(i);
+        }
         calls.end();
     }
 
@@ -43,6 +46,23 @@ public final class ModelTest {
         for (int i = 0; i < 5; i++) {
             same(name, x, model, "repair " + random.nextInt(things) + " " + (1 + random.nextInt(24)) + " "
                     + random.nextInt(skills) + " " + random.nextInt(waiting));
+        }
+        same(name, x, model, "plan");
+        same(name, x, model, "cost");
+        for (int i = 0; i < 15; i++) same(name, x, model, "at " + i / 3 + " " + i % 3);
+    }
+
+    // Each repair has all of 24 placements: as many plans as there can be.
+    private static void planFullestWeek(int number) {
+        WearHours x = new WearHours();
+        Model model = new Model();
+        String name = "fullest week " + number;
+        same(name, x, model, "rules 0 " + random.nextInt(3000));
+        for (int i = 0; i < 8; i++) same(name, x, model, "thing 5 5");
+        for (int i = 0; i < 6; i++) same(name, x, model, "gap " + random.nextInt(60) + " " + (108 + random.nextInt(61)));
+        for (int i = 0; i < 4; i++) same(name, x, model, "person 2 " + random.nextInt(40) + " 168");
+        for (int i = 0; i < 5; i++) {
+            same(name, x, model, "repair " + random.nextInt(8) + " " + (1 + random.nextInt(6)) + " 2 " + random.nextInt(1001));
         }
         same(name, x, model, "plan");
         same(name, x, model, "cost");

@@ -107,7 +107,8 @@ public final class PromiseTest {
         calls.run("7 closes and opens", "thing 9 9 = 0", "permit 0 true = meaning", "permit 0 false = ok", "told 0 1 = 1",
                 "permit 0 false = meaning", "permit 0 true = ok", "told 0 1 = 0", "history 0 0 = -3", "history 0 1 = -2",
                 "history 0 2 = 0");
-        calls.run("7 one thing's permit", "thing 9 9 = 0", "thing 9 9 = 1", "permit 1 false = ok", "told 0 1 = 0", "told 1 1 = 1");
+        calls.run("7 one thing's permit", "thing 9 9 = 0", "thing 9 9 = 1", "permit 1 false = ok", "told 0 1 = 0",
+                "told 1 1 = 1");
         calls.run("7 wrong inputs", "thing 9 9 = 0", "permit 1 false = index", "permit -1 true = index", "permit 1 true = index");
         calls.run("7 leaves the plan", "thing 9 9 = 0", "plan = 0", "permit 0 false = ok", "cost = 0");
     }
@@ -127,7 +128,8 @@ public final class PromiseTest {
         calls.run("9 six gaps", "gap 0 1 = 1", "gap 167 168 = 2", "gap 0 168 = 3", "gap 0 1 = 4", "gap 5 6 = 5",
                 "gap 5 6 = 6", "gap 5 6 = meaning", "gap 6 5 = range");
         calls.run("9 range", "gap -1 5 = range", "gap 0 169 = range", "gap 5 5 = range", "gap 5 4 = range",
-                "gap 168 168 = range", "gap 168 169 = range", "gap 0 0 = range", "gap -2147483648 2147483647 = range", "gap 0 1 = 1");
+                "gap 168 168 = range", "gap 168 169 = range", "gap 0 0 = range", "gap -2147483648 2147483647 = range",
+                "gap 0 1 = 1");
         calls.run("9 no plan then", "plan = 0", "gap 0 1 = 1", "cost = turn", "plan = 0", "gap 1 1 = range", "cost = 0");
         calls.run("9 refused, the plan stays", "gap 0 1 = 1", "gap 0 1 = 2", "gap 0 1 = 3", "gap 0 1 = 4", "gap 0 1 = 5",
                 "gap 0 1 = 6", "plan = 0", "gap 0 1 = meaning", "cost = 0");
@@ -139,7 +141,8 @@ public final class PromiseTest {
         calls.run("10 range", "person -1 0 1 = range", "person 4 0 1 = range", "person 0 -1 5 = range", "person 0 0 169 = range",
                 "person 0 5 5 = range", "person 0 5 4 = range", "person 0 168 168 = range", "person 2147483647 0 1 = range",
                 "person 0 0 1 = 0");
-        calls.run("10 no plan then", "plan = 0", "person 0 0 1 = 0", "cost = turn", "plan = 0", "person 4 0 1 = range", "cost = 0");
+        calls.run("10 no plan then", "plan = 0", "person 0 0 1 = 0", "cost = turn", "plan = 0", "person 4 0 1 = range",
+                "cost = 0");
         calls.run("10 refused, the plan stays", "person 0 0 1 = 0", "person 0 0 1 = 1", "person 0 0 1 = 2", "person 0 0 1 = 3",
                 "plan = 0", "person 0 0 1 = meaning", "cost = 0");
     }

@@ -22,6 +22,18 @@ final class Calls {
         }
     }
 
+    /**
+     * The row with each of the values in place of %, in the call and in its answer, and then the
+     * rows behind it; each value has a new object, made ready by the rows ahead.
+     */
+    void each(String name, String[] ahead, String row, String[] behind, int... values) {
+        for (int value : values) {
+            WearHours x = run(name, ahead);
+            more(x, name, row.replace("%", "" + value));
+            more(x, name, behind);
+        }
+    }
+
     void due(String name, String call, String got, String want) {
         made++;
         if (!got.equals(want)) {
