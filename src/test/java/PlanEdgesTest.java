@@ -26,6 +26,7 @@ public final class PlanEdgesTest {
         noPlanThen();
         planStays();
         fullWeeks();
+        nothingLeftOfEarlierPlans();
         calls.end();
     }
 
@@ -304,6 +305,20 @@ public final class PlanEdgesTest {
                 calls.more(x, name, "plan = 0", "at 0 0 = -1", "at 4 2 = -1", "cost = 845000", "done = 0", "spare 3 0 = 100",
                         "history 3 0 = 0");
             }
+        }
+    }
+
+    // Five repairs as dear as can be, then fewer of them: the later search must not reckon with the earlier costs.
+    private static void nothingLeftOfEarlierPlans() {
+        for (int count = 0; count <= 5; count++) {
+            String name = "all repairs are gone then, and " + count + " come behind five";
+            WearHours x = calls.run(name, "thing 5 5 = 0", "gap 0 168 = 1", "person 0 50 168 = 0", "person 0 0 168 = 1",
+                    "rules 0 1000000 = ok");
+            for (int i = 0; i < 5; i++) calls.more(x, name, "repair 0 24 1 1000 = " + i);
+            calls.more(x, name, "plan = 0", "cost = 5840000", "done = 0");
+            for (int i = 0; i < count; i++) calls.more(x, name, "repair 0 1 0 1 = " + i);
+            calls.more(x, name, "plan = " + count, "cost = " + count * (count - 1) / 2, "at " + count + " 0 = index");
+            for (int i = 0; i < count; i++) calls.more(x, name, "at " + i + " 0 = " + i, "at " + i + " 1 = 1");
         }
     }
 }
