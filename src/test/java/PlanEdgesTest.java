@@ -243,11 +243,15 @@ public final class PlanEdgesTest {
             int done = spares < 5 ? spares : 5;
             calls.more(x, name, "plan = 5", "done = " + done, "spare 0 0 = " + (spares - done), "spare 1 0 = 50",
                     "at 0 0 = index");
-            // The document tells no order for scarce spares; repairs are placed by numbers, so they are done by numbers here.
+            // The document tells no order for scarce spares; a shared run has them go by the repairs' numbers.
             for (int i = 0; i < 5; i++) {
                 calls.more(x, name, "told " + i + " 0 = " + (i < done ? 0 : 3), "history " + i + " 0 = " + (i < done ? -1 : 3));
             }
         }
+        rows("the last spare goes by numbers, not by hours", new String[] {"thing 5 5 = 0", "thing 5 5 = 1", "gap 0 168 = 1",
+                "person 0 50 168 = 0", "person 0 0 168 = 1"}, "use 0 3 = 3", "use 1 3 = 3", "spare 0 1 = 1",
+                "repair 0 4 0 0 = 0", "repair 1 4 0 9 = 1", "plan = 2", "at 0 0 = 50", "at 1 0 = 0", "done = 1",
+                "told 0 0 = 0", "told 1 0 = 3");
         rows("a spare told behind the plan does", WEEK, "repair 0 1 0 0 = 0", "plan = 1", "spare 0 1 = 1", "done = 1",
                 "spare 0 0 = 0");
         rows("one thing twice, one spare", WEEK, "use 0 3 = 3", "spare 0 1 = 1", "repair 0 1 0 0 = 0", "repair 0 1 0 0 = 1",
