@@ -243,7 +243,7 @@ public final class PlanEdgesTest {
             int done = spares < 5 ? spares : 5;
             calls.more(x, name, "plan = 5", "done = " + done, "spare 0 0 = " + (spares - done), "spare 1 0 = 50",
                     "at 0 0 = index");
-            // The document tells no order for scarce spares; a shared run has them go by the repairs' numbers.
+            // The document tells no order for scarce spares; a shared run fits the repairs' numbers, not their reverse.
             for (int i = 0; i < 5; i++) {
                 calls.more(x, name, "told " + i + " 0 = " + (i < done ? 0 : 3), "history " + i + " 0 = " + (i < done ? -1 : 3));
             }
